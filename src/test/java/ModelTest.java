@@ -145,6 +145,23 @@ public final class ModelTest {
         return s.length() > 400 ? s.substring(0, 400) : s.toString();
     }
 
+    /** At the limits of brackets, PARTS and CLAUSES: a little below, at, or a little above them. */
+    private String lawAtALimit() {
+        int round = upTo(5);
+        int square = 3 + upTo(3);
+        switch (upTo(3)) {
+            case 0:
+                return "stop if " + "(".repeat(round) + "[".repeat(square) + "doubt" + "]".repeat(square) + " > "
+                    + "[".repeat(9 - round) + "7" + "]".repeat(9 - round) + ")".repeat(round);
+            case 1:
+                return "odds 1" + "+ring".repeat(47 + upTo(2)) + " if 1" + oneOf("<", "=") + part(3);
+            case 2:
+                return "move 0-weight" + ";move weight".repeat(10 + upTo(2)) + oneOf("", ";", " if side=0");
+            default:
+                return "key warmth if " + "not ".repeat(upTo(90)) + "warmth>40";
+        }
+    }
+
     private void putTape(byte[] bytes) {
         int[] n = Check.numbers(bytes);
         call("end", 0);
@@ -155,7 +172,7 @@ public final class ModelTest {
     }
 
     private void readLaw() {
-        putTape(Check.bytes(law()));
+        putTape(Check.bytes(upTo(9) == 0 ? lawAtALimit() : law()));
         call("text");
         call("fault");
     }
@@ -204,7 +221,11 @@ public final class ModelTest {
             case 11: call("sheet", number(0, size(3)), number(0, 20) * 20, number(0, 7), number(-50, 50), number(0, 7)); break;
             case 12: case 13: call("send", number(0, size(4)), number(0, 1)); break;
             case 14: call("image", number(0, 1)); break;
-            default: call("back", number(0, 1)); break;
+            default:
+                if (upTo(2) == 0) {
+                    call("back", number(0, 1));
+                }
+                break;
         }
         call("status");
     }
@@ -235,27 +256,68 @@ public final class ModelTest {
     }
 
     private void askTalks() {
-        switch (upTo(7)) {
-            case 0: call("talk", text(), text(), number(0, 2)); break;
-            case 1: call("talked", text(), text(), number(0, size(3)), number(0, 2)); break;
-            case 2: call("parts", text(), text(), number(0, size(4))); break;
-            case 3: call("ask", text(), text()); break;
-            case 4: call("worlds", text(), text(), number(1, 60), number(0, 1_000_000)); break;
+        boolean usual = upTo(3) > 0;
+        int moves = usual ? 0 : text();
+        int against = usual ? 1 : text();
+        switch (upTo(8)) {
+            case 0: call("talk", moves, against, number(0, 2)); break;
+            case 1: call("talked", moves, against, number(0, size(3)), number(0, 2)); break;
+            case 2: call("parts", moves, against, number(0, size(4))); break;
+            case 3: call("ask", moves, against); break;
+            case 4: call("worlds", moves, against, number(1, 60), number(0, 1_000_000)); break;
             case 5: call("count", number(0, 13)); break;
-            default: askLeast(); break;
+            default: askLeast(moves, against); break;
         }
     }
 
-    private void askLeast() {
-        int moves = text();
-        int against = text();
+    private void askLeast(int moves, int against) {
         call("least", moves, against);
-        call("more", moves, against, number(0, 3));
-        call("more", moves, against, 0);
+        for (int i = 0; i < 3; i++) {
+            call("more", moves, against, i);
+        }
+        call("more", moves, against, number(0, 12));
+    }
+
+    private void read(String law) {
+        putTape(Check.bytes(law));
+        call("text");
+    }
+
+    /** A hall in which what is sent matters. */
+    private void fillHall() {
+        read(oneOf("move weight", "move weight / 2; move weight if proof = 0", "move 20 if doubt < 50; move 0 - 9 if side = 1",
+            "move weight * [rank + 1] / 5", "move minute / 10 - kind if weight > 0 or rank / proof > 3"));
+        read(oneOf("stop if doubt > 50", "stop if doubt + proof * 20 > 60; stop if rank > 8",
+            "stop if proof = 0 and doubt > 40", "stop if doubt / rank > 9", "stop if doubt < 20"));
+        for (int n = 3 + upTo(10); n > 0; n--) {
+            call("talker", upTo(9), upTo(2), upTo(1), upTo(100), upTo(4) > 0 ? 1 : 0);
+        }
+        for (int n = 3 + upTo(7); n > 0; n--) {
+            call("sheet", upTo(size(3)), upTo(6) * 50, upTo(7), upTo(3) > 0 ? upTo(30) : upTo(100) - 50, 1 + upTo(6));
+        }
+        call("terms", 1, 1 + upTo(7));
+    }
+
+    private void fillFleet() {
+        for (int n = 3 + upTo(22); n > 0; n--) {
+            call("flight", number(-40, 120), upTo(9), 1 + upTo(5));
+        }
+        for (int n = upTo(60); n > 0; n--) {
+            call("ring", upTo(size(0)), upTo(5), upTo(3) - 1);
+        }
+        for (int n = upTo(4); n > 0; n--) {
+            readLaw();
+        }
     }
 
     private void play() {
         int eager = upTo(3);
+        int kindOfRun = upTo(2);
+        if (kindOfRun == 1) {
+            fillHall();
+        } else if (kindOfRun == 2) {
+            fillFleet();
+        }
         for (int i = 0; i < 512 && !stops; i++) {
             int kind = upTo(9);
             if (kind < 3 + eager) {
