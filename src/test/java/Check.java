@@ -1,3 +1,5 @@
+import java.util.function.IntUnaryOperator;
+
 /** What all tests share: answers that are due, and a TAPE written as a String. */
 final class Check {
     private static int wrong = 0;
@@ -12,6 +14,31 @@ final class Check {
             wrong++;
             System.out.println(call + " answered " + got + ", due is " + want);
         }
+    }
+
+    /**
+     * At both bounds and one step within them a number is taken; one step beyond them and as far off as numbers
+     * go it is not. The call makes an object of its own each time.
+     */
+    static void edges(String call, int least, int most, int without, IntUnaryOperator answer) {
+        for (int n : new int[] {least, Math.min(least + 1, most), Math.max(most - 1, least), most}) {
+            due(call + " takes " + n, answer.applyAsInt(n) == without ? 0 : 1, 1);
+        }
+        for (int n : new int[] {least - 1, most + 1, Integer.MIN_VALUE, Integer.MAX_VALUE}) {
+            due(call + " with " + n, answer.applyAsInt(n), without);
+        }
+    }
+
+    /** The call was REFUSED by that number, and status() tells it. */
+    static void refused(String call, ColdRing x, int answer, int why) {
+        due(call, answer, why);
+        due("status behind " + call, x.status(), why);
+    }
+
+    /** The call was not REFUSED. */
+    static void granted(String call, ColdRing x, int answer, int want) {
+        due(call, answer, want);
+        due("status behind " + call, x.status(), 0);
     }
 
     /** Ends the test: exit code 1 if an answer was not the one that is due. */
