@@ -20,6 +20,7 @@ public final class RefusalTest {
         emptiedTapes();
         questionsLeaveAll();
         imagesKeepAllButTapeAndFault();
+        twoEvenings();
         imageBounds();
         imagesStay();
         countBounds();
@@ -113,8 +114,10 @@ public final class RefusalTest {
         for (int t = 0; t < x.count(3); t++) {
             add(told, "talked", x.talked(0, 1, t, 0));
             add(told, "talked", x.talked(0, 1, t, 1));
+            add(told, "talked", x.talked(0, 1, t, 2));
         }
         add(told, "talk", x.talk(0, 1, 0));
+        add(told, "first PROOF", x.talk(0, 1, 2));
         add(told, "least", x.least(0, 1));
         add(told, "worlds", x.worlds(0, 1, 30, 3));
         for (int f = 0; f < x.count(0); f++) {
@@ -332,6 +335,54 @@ public final class RefusalTest {
         Check.text(x, "  Q");
         x.back(0);
         Check.due("FAULT is not kept", x.fault(), 0);
+    }
+
+    /** Two evenings that have as much of all, and nothing alike: each field of an IMAGE is its own. */
+    private static void fill(ColdRing x, int other) {
+        for (int f = 0; f < 3; f++) {
+            x.flight(20 + 9 * f + 30 * other, 2 + f + 3 * other, 4 - f + 2 * other);
+            x.ring(f, f % 2, 1 + f + 2 * other);
+        }
+        Check.text(x, other == 0 ? "odds 20+ring*9;key warmth;move weight+rank-side*3+room*2+kind"
+            : "odds 70-press;key 0-press;move weight-rank+side*5+minute/7");
+        Check.text(x, other == 0 ? "odds 5;stop if doubt>49" : "odds 6;key worst;stop if doubt<30 and proof=0");
+        for (int i = 0; i < 3; i++) {
+            x.point(20 + 6 * i + 3 * other, 5 + i + 20 * other);
+            x.terms(i, 3 + i + 4 * other);
+            x.talker(8 - 2 * i + other * (4 * i - 7), (i + other) % 3, other, 30 + i - 9 * other, (i + other + 1) % 2);
+        }
+        x.terms(3, 9 * other);
+        for (int i = 0; i < 4; i++) {
+            x.sheet((i + other) % 3, other == 0 ? 50 - 9 * i : 10 + 20 * i, (i + 3 + 2 * other) % 8, 7 * i - 30 * other,
+                7 - 3 * other);
+            x.send(i, (i + 1 + other) % 2);
+        }
+    }
+
+    private static void twoEvenings() {
+        ColdRing x = new ColdRing();
+        x.image(1);
+        fill(x, 0);
+        x.image(0);
+        x.back(1);
+        fill(x, 1);
+        x.image(1);
+        for (int turn : new int[] {0, 1, 1, 0, 1}) {
+            x.back(turn);
+            ColdRing alone = new ColdRing();
+            fill(alone, turn);
+            List<String> a = all(x);
+            List<String> b = all(alone);
+            Check.due("as many answers", a.size(), b.size());
+            for (int i = 0; i < Math.min(a.size(), b.size()); i++) {
+                Check.due("evening " + turn + ": " + a.get(i) + ", alone " + b.get(i), a.get(i).equals(b.get(i)) ? 1 : 0, 1);
+            }
+        }
+        ColdRing first = new ColdRing();
+        ColdRing second = new ColdRing();
+        fill(first, 0);
+        fill(second, 1);
+        Check.due("the evenings are not alike", all(first).equals(all(second)) ? 1 : 0, 0);
     }
 
     /** "IMAGE k is kept: 0; -1", "-2 it was not kept". */

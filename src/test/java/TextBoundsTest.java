@@ -35,6 +35,8 @@ public final class TextBoundsTest {
         whatStandsBehind();
         lastClauseThatHolds();
         wordsThatAreNotOfIt();
+        wordsOfAnotherQuestion();
+        eachTextByItself();
         Check.finish("TextBoundsTest");
     }
 
@@ -476,5 +478,56 @@ public final class TextBoundsTest {
         x.send(x.sheet(0, 200, 7, 3, 4), 1);
         Check.due(word + " with a SHEET", x.talked(0, 1, 1, 0), ofTalker || ofSheet ? 70 : 65);
         Check.due(word + " without a SHEET", x.talked(0, 1, 1, 2), ofTalker ? 1 : 0);
+    }
+
+    /** A word that is not of what a TEXT is asked of is 0, whatever was asked ahead of it. */
+    private static void wordsOfAnotherQuestion() {
+        for (String word : WORDS) {
+            ColdRing x = new ColdRing();
+            x.flight(3, 4, 2);
+            x.ring(0, 1, 5);
+            x.flight(0, 0, 2);
+            x.talker(9, 2, 1, 50, 1);
+            x.talker(8, 2, 1, 60, 1);
+            x.send(x.sheet(0, 100, 5, 3, 4), 1);
+            x.send(x.sheet(0, 200, 7, 3, 4), 1);
+            String so = " if not " + word + "=0";
+            Check.text(x, "odds 30;odds 40" + so + ";key 1" + so + ";move 5;move 10" + so + ";stop" + so);
+            boolean ofRing = "warmth press ring".contains(word);
+            boolean ofFlight = "warmth press worst".contains(word);
+            boolean ofTalker = "rank room side doubt proof".contains(word);
+            boolean ofSheet = "kind weight minute".contains(word);
+            int[] orders = {0, 1, 2, 3, 0, 3, 2, 1, 0, 2, 0, 3, 1, 3, 3};
+            for (int question : orders) {
+                if (question == 0) {
+                    Check.due(word + " of a RING", x.odds(0, 7, 7, 5), ofRing ? 40 : 30);
+                } else if (question == 1) {
+                    Check.due(word + " of a FLIGHT", x.picture(0, 0, 0), ofFlight ? 1 : 0);
+                } else if (question == 2) {
+                    Check.due(word + " with a SHEET", x.talked(0, 0, 1, 0), ofTalker || ofSheet ? 70 : 65);
+                } else {
+                    Check.due(word + " without a SHEET", x.talked(0, 0, 1, 2), ofTalker ? 1 : 0);
+                }
+            }
+        }
+    }
+
+    /** CLAUSES, PARTS and brackets are counted for each TEXT anew, behind one that was none, too. */
+    private static void eachTextByItself() {
+        String parts = "odds 21" + "+1".repeat(49);
+        String clauses = "odds 1;".repeat(11) + "odds 71";
+        String brackets = "odds " + "[".repeat(8) + "72" + "]".repeat(8);
+        ColdRing x = new ColdRing();
+        for (int i = 0; i < 3; i++) {
+            Check.granted("50 PARTS", x, Check.text(x, parts), 3 * i);
+            Check.refused("51 PARTS", x, Check.text(x, parts + "+1"), -6);
+            Check.granted("12 CLAUSES", x, Check.text(x, clauses), 3 * i + 1);
+            Check.refused("13 CLAUSES", x, Check.text(x, clauses + ";stop"), -6);
+            Check.refused("9 brackets", x, Check.text(x, "odds " + "[".repeat(9) + "1" + "]".repeat(9)), -6);
+            Check.granted("8 brackets", x, Check.text(x, brackets), 3 * i + 2);
+        }
+        for (int i = 0; i < 9; i++) {
+            Check.due("ODDS of " + i, x.odds(i, 0, 0, 0), 70 + i % 3);
+        }
     }
 }
