@@ -115,6 +115,7 @@ public final class RefusalTest {
             add(told, "talked", x.talked(0, 1, t, 0));
             add(told, "talked", x.talked(0, 1, t, 1));
             add(told, "talked", x.talked(0, 1, t, 2));
+            add(told, "stops by the last TEXT", x.talked(0, x.count(1) - 1, t, 2));
         }
         add(told, "talk", x.talk(0, 1, 0));
         add(told, "first PROOF", x.talk(0, 1, 2));
@@ -346,6 +347,7 @@ public final class RefusalTest {
         Check.text(x, other == 0 ? "odds 20+ring*9;key warmth;move weight+rank-side*3+room*2+kind"
             : "odds 70-press;key 0-press;move weight-rank+side*5+minute/7");
         Check.text(x, other == 0 ? "odds 5;stop if doubt>49" : "odds 6;key worst;stop if doubt<30 and proof=0");
+        Check.text(x, "stop");
         for (int i = 0; i < 3; i++) {
             x.point(20 + 6 * i + 3 * other, 5 + i + 20 * other);
             x.terms(i, 3 + i + 4 * other);

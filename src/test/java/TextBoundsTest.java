@@ -36,6 +36,7 @@ public final class TextBoundsTest {
         lastClauseThatHolds();
         wordsThatAreNotOfIt();
         wordsOfAnotherQuestion();
+        wordsAheadOfAPicture();
         eachTextByItself();
         Check.finish("TextBoundsTest");
     }
@@ -508,6 +509,31 @@ public final class TextBoundsTest {
                 } else {
                     Check.due(word + " without a SHEET", x.talked(0, 0, 1, 2), ofTalker ? 1 : 0);
                 }
+            }
+        }
+    }
+
+    /** As above, with a "key" that turns the order of the FLIGHTS about unless the word is 0 for both of them. */
+    private static void wordsAheadOfAPicture() {
+        for (String word : new String[] {"ring", "rank", "room", "side", "doubt", "proof", "kind", "weight", "minute"}) {
+            for (int question = 0; question < 3; question++) {
+                ColdRing x = new ColdRing();
+                x.flight(3, 4, 2);
+                x.flight(0, 0, 2);
+                x.talker(9, 2, 1, 50, 1);
+                x.talker(8, 2, 1, 60, 1);
+                x.send(x.sheet(0, 100, 5, 3, 4), 1);
+                x.send(x.sheet(0, 200, 7, 3, 4), 1);
+                Check.text(x, "key 0-warmth;key warmth if not " + word + "=0;odds warmth+ring;move doubt;stop if doubt>0");
+                if (question == 0) {
+                    x.odds(0, 7, 7, 5);
+                } else if (question == 1) {
+                    x.talked(0, 0, 1, 2);
+                } else {
+                    x.times(0, 0, 0);
+                }
+                Check.due(word + " of a FLIGHT behind question " + question, x.picture(0, 0, 0), 0);
+                Check.due(word + " of the next FLIGHT", x.picture(0, 0, 1), 1);
             }
         }
     }
