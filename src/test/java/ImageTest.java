@@ -1,3 +1,6 @@
+import java.util.function.Consumer;
+import java.util.function.ToLongFunction;
+
 /** Promises 36 to 39: image, back, count, status. */
 public final class ImageTest {
     private static final int NONE = ColdRing.NONE;
@@ -10,6 +13,7 @@ public final class ImageTest {
         allIsKept();
         whatIsNotKept();
         imagesStay();
+        eachFieldIsKept();
         textsGoBack();
         counts();
         status();
@@ -143,6 +147,89 @@ public final class ImageTest {
         Check.due("IMAGE 0 kept anew", x.of(0, 3), 7);
         x.back(1);
         Check.due("IMAGE 1 is its own", x.of(0, 3), 0);
+    }
+
+    /** Two evenings that differ in one field alone: each IMAGE gives back its own. */
+    private static void keptApart(String field, Consumer<ColdRing> one, Consumer<ColdRing> other, ToLongFunction<ColdRing> asked) {
+        ColdRing x = new ColdRing();
+        x.image(0);
+        one.accept(x);
+        long first = asked.applyAsLong(x);
+        x.image(1);
+        x.back(0);
+        other.accept(x);
+        long second = asked.applyAsLong(x);
+        x.image(0);
+        Check.due(field + " can be seen", first == second ? 0 : 1, 1);
+        for (int i = 0; i < 2; i++) {
+            x.back(1);
+            Check.due(field + " of IMAGE 1", asked.applyAsLong(x), first);
+            x.back(0);
+            Check.due(field + " of IMAGE 0", asked.applyAsLong(x), second);
+        }
+    }
+
+    private static void eachFieldIsKept() {
+        keptApart("WARMTH", x -> x.flight(3, 0, 1), x -> x.flight(4, 0, 1), x -> x.of(0, 0));
+        keptApart("PRESS", x -> x.flight(0, 3, 1), x -> x.flight(0, 4, 1), x -> x.of(0, 1));
+        keptApart("RINGS", x -> x.flight(0, 0, 3), x -> x.flight(0, 0, 4), x -> x.of(0, 2));
+        keptApart("SCORCH", x -> scorched(x, 3), x -> scorched(x, NONE), x -> x.of(0, 5) * 10 + x.of(0, 3));
+        for (int what = 0; what < 4; what++) {
+            int term = what;
+            keptApart("TERM " + what, x -> x.terms(term, 7), x -> x.terms(term, 8), x -> asTermWas(x, term));
+        }
+        keptApart("a TEXT", x -> Check.text(x, "odds 3"), x -> Check.text(x, "odds 4"), x -> x.odds(0, 0, 0, 0));
+        keptApart("a POINT's WARMTH", x -> x.point(3, 1), x -> x.point(4, 1), x -> x.tenths(3, 0));
+        keptApart("a POINT's TENTHS", x -> x.point(3, 1), x -> x.point(3, 2), x -> x.tenths(3, 0));
+        // RANK, ROOM, SIDE, DOUBT, VOTE of TALKER 1
+        int[][] talkers = {{4, 0, 0, 10, 1}, {5, 0, 0, 10, 1}, {4, 1, 0, 10, 1}, {4, 0, 1, 10, 1}, {4, 0, 0, 11, 1},
+            {4, 0, 0, 10, 0}};
+        // TALKER, MINUTE, KIND, WEIGHT, ROOMS, SENT of a SHEET
+        int[][] sheets = {{0, 9, 0, 5, 1, 1}, {1, 9, 0, 5, 1, 1}, {0, 8, 0, 5, 1, 1}, {0, 9, 1, 5, 1, 1}, {0, 9, 0, 6, 1, 1},
+            {0, 9, 0, 5, 2, 1}, {0, 9, 0, 5, 1, 0}};
+        for (int i = 1; i < talkers.length; i++) {
+            int[] other = talkers[i];
+            keptApart("field " + i + " of a TALKER", x -> talk(x, talkers[0], sheets[0]), x -> talk(x, other, sheets[0]),
+                ImageTest::asTalked);
+        }
+        for (int i = 1; i < sheets.length; i++) {
+            int[] other = sheets[i];
+            keptApart("field " + i + " of a SHEET", x -> talk(x, talkers[0], sheets[0]), x -> talk(x, talkers[0], other),
+                ImageTest::asTalked);
+        }
+        keptApart("the MINUTE of PROOF", x -> turned(x, 3), x -> turned(x, 4), x -> x.talk(0, 0, 2));
+    }
+
+    private static void scorched(ColdRing x, int scorch) {
+        x.flight(0, 0, 1);
+        x.ring(0, 0, scorch);
+    }
+
+    /** It tells what the TERM was, and leaves it so. */
+    private static int asTermWas(ColdRing x, int term) {
+        int was = x.terms(term, 1);
+        x.terms(term, was);
+        return was;
+    }
+
+    private static void talk(ColdRing x, int[] talker, int[] sheet) {
+        Check.text(x, "move weight + 3*minute + 7*kind + rank + 9*side; stop");
+        x.talker(9, 2, 0, 0, 0);
+        x.talker(talker[0], talker[1], talker[2], talker[3], talker[4]);
+        x.sheet(sheet[0], sheet[1], sheet[2], sheet[3], sheet[4]);
+        x.send(0, sheet[5]);
+    }
+
+    private static void turned(ColdRing x, int minute) {
+        Check.text(x, "stop");
+        x.talker(9, 0, 0, 0, 0);
+        x.talker(8, 0, 0, 0, 0);
+        x.sheet(0, minute, 5, 0, 1);
+        x.send(0, 1);
+    }
+
+    private static long asTalked(ColdRing x) {
+        return x.talked(0, 0, 1, 0) * 2L + x.talked(0, 0, 1, 2);
     }
 
     private static void textsGoBack() {
